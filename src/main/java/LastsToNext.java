@@ -938,7 +938,7 @@ public final class LastsToNext {
                 return road.places >= PLACES ? failWith(MANY) : readPlace();
             }
             if (isWord("road")) {
-                return road.roads >= ROADS ? failWith(MANY) : readWayBetween();
+                return road.roads >= ROADS ? failWith(MANY) : readRoadBetween();
             }
             if (isWord("pump")) {
                 return road.pumps >= PUMPS ? failWith(MANY) : readPump();
@@ -990,7 +990,7 @@ public final class LastsToNext {
             return true;
         }
 
-        private boolean readWayBetween() {
+        private boolean readRoadBetween() {
             lookOn();
             if (!isToldName()) {
                 return false;

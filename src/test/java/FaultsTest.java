@@ -87,6 +87,9 @@ public final class FaultsTest {
         faulty(CAR + ";;", 1, 34);
         faulty(CAR + ",", 1, 33);
         faultyAt("car tank 5 has 5 stop 0 ; stuck", 1, ";");
+        faultyAt("car tank ;", 1, ";");
+        faultyAt(AB + "pump a price ;", 1, ";");
+        faultyAt("car tank 1 has 0 stop 0,0 stuck 0;car", 3, "car");
         faultyAt("car has 5", 1, "has");
         faultyAt("car tank tank", 1, "tank");
         faultyAt("car tank 5 has 5 stop 0,0 stuck 7 8", 1, "8");

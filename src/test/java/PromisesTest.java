@@ -172,6 +172,9 @@ public final class PromisesTest {
         T.refused("11", x.plan(0, -1), x, 2);
         T.refused("11", x.plan(0, 11), x, 2);
         T.accepted("13 as it was", x.cost(), 82, x);
+        T.refused("11", x.plan(0, 99), x, 2);
+        T.due("11", x.plan(0, 6), true);
+        T.due("57 of plan", x.trouble(), 0);
         // The PLAN is no ACT.
         T.due("11 no act", x.size(11), 0);
         LastsToNext y = Told.of("car tank 5 has 5 stop 1,1 stuck 7;place a;place b;road a b takes 2 minutes 3;way a,b");
@@ -294,8 +297,8 @@ public final class PromisesTest {
         T.accepted("23 half", y.buys(3, 0, 5, false), 0, y);
         LastsToNext z = Told.of("car tank 5 has 0 stop 0,0 stuck 50;place a;place b;place c;road a b takes 5 minutes 0;"
                 + "road b c takes 6 minutes 0;pump a price 4 shut 0;way a,b,c");
-        T.accepted("24 stuck", z.byRule(0), -2, z);
         T.accepted("25 stuck", z.stuckAt(0), 1, z);
+        T.accepted("24 stuck", z.byRule(0), -2, z);
         T.accepted("23 late, a tank isn't enough", z.buys(2, 0, 1, false), 4, z);
         T.refused("23 no pump", z.buys(0, 1, 0, false), z, 6);
     }
@@ -303,6 +306,7 @@ public final class PromisesTest {
     /** 26 to 31. */
     private static void chances() {
         LastsToNext x = road();
+        x.station(-1);
         T.accepted("26", x.odds(2, false), 1, x);
         T.accepted("26", x.odds(2, true), 2, x);
         T.accepted("27", x.mean(3, false), 103, x);
@@ -424,6 +428,9 @@ public final class PromisesTest {
         T.accepted("38", x.depot(3, false, 2, true), 3, x);
         T.accepted("38 home", x.depot(3, true, 2, false), 25, x);
         T.accepted("38 home", x.depot(3, true, 2, true), 6, x);
+        T.accepted("38", x.depot(2, false, 1, false), 10, x);
+        T.accepted("38", x.depot(2, false, 1, true), 3, x);
+        T.accepted("38 home", x.depot(12, true, 1, true), 12, x);
         T.refused("38", x.depot(1, false, 1, true), x, 2);
         T.refused("38", x.depot(3, false, 0, true), x, 1);
         T.refused("38", x.depot(3, false, 3, true), x, 1);
@@ -482,6 +489,11 @@ public final class PromisesTest {
         T.accepted("40 in order", u.fits(), 1, u);
         T.accepted("41 in order", u.fit(0, 1), 2, u);
         T.accepted("42 in order", u.went(true), 15, u);
+        // Each call searches by itself.
+        T.accepted("42 alone", Told.of(net).went(false), 15, u);
+        T.accepted("42 alone", Told.of(net).went(true), 9, u);
+        T.accepted("43 alone", Told.of(net).needle(false), 4, u);
+        T.accepted("41 alone", Told.of(net).fit(3, 2), 3, u);
         // From a place to itself there is but the row of that place.
         LastsToNext t = Told.of("car tank 5 has 1 stop 1,7 stuck 9;place a;place b;road a b takes 1 minutes 9;way b,a,b");
         T.accepted("40 itself", t.fits(), 1, t);
@@ -571,6 +583,7 @@ public final class PromisesTest {
         T.refused("51", x.seed(-1), x, 2);
         T.refused("51", x.seed(65537), x, 2);
         T.due("51", x.seed(65536), true);
+        T.due("57 of seed", x.trouble(), 0);
         T.due("51 size", x.size(10), 65536);
     }
 
@@ -584,7 +597,9 @@ public final class PromisesTest {
         x.fill(6);
         x.drive(2);
         x.seed(99);
+        x.station(-1);
         T.due("52", x.undo(), true);
+        T.due("57 of undo", x.trouble(), 0);
         T.due("52 SEED too", x.size(10), 5);
         T.due("52", x.car(0), 0);
         T.due("52", x.undo(), true);
@@ -607,7 +622,9 @@ public final class PromisesTest {
         T.refused("53", x.image(), x, 3);
         T.due("12", x.size(12), 3);
         x.seed(7);
+        x.station(-1);
         T.due("54", x.back(0), true);
+        T.due("57 of back", x.trouble(), 0);
         T.due("54", x.car(3), 30);
         T.due("54 nothing undone", x.size(11), 0);
         T.refused("54 nothing undone", x.undo(), x, 6);
