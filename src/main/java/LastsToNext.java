@@ -732,6 +732,8 @@ public final class LastsToNext {
         final int[] second = new int[PLACES];
         final int[] shut = new int[PLACES];
         final int[] way = new int[STATIONS];
+        /** Pints from station 0 to each. */
+        final int[] upTo = new int[STATIONS];
         final int[] receiptPlace = new int[RECEIPTS];
         final int[] receiptPence = new int[RECEIPTS];
 
@@ -803,7 +805,7 @@ public final class LastsToNext {
         }
 
         int legPints(int i) {
-            return pintsOf(way[i], way[i + 1]);
+            return upTo[i + 1] - upTo[i];
         }
 
         int legMinutes(int i) {
@@ -811,22 +813,17 @@ public final class LastsToNext {
         }
 
         int legsPints(int i, int j) {
-            int sum = 0;
-            for (int leg = i; leg < j; leg++) {
-                sum += legPints(leg);
-            }
-            return sum;
+            return upTo[j] - upTo[i];
         }
 
         int lastReached(int from, int level) {
-            int left = level;
-            for (int i = from; i < stations - 1; i++) {
-                left -= legPints(i);
-                if (left < 0) {
-                    return i;
+            int last = from;
+            for (int i = from; i < stations; i++) {
+                if (upTo[i] - upTo[from] <= level) {
+                    last = i;
                 }
             }
-            return stations - 1;
+            return last;
         }
 
         boolean hasPumpAt(int i) {
@@ -1030,27 +1027,22 @@ public final class LastsToNext {
                 return false;
             }
             road.first[place] = value;
-            if (isWord("or") && !readSecondPrice(place)) {
-                return false;
+            if (isWord("or")) {
+                lookOn();
+                int at = from;
+                if (!passWhole(1, 99)) {
+                    return false;
+                }
+                if (value == road.first[place]) {
+                    return failAt(AGAIN, at);
+                }
+                road.second[place] = value;
             }
             if (!passWord("shut") || !passWhole(0, 9)) {
                 return false;
             }
             road.shut[place] = value;
             road.pumps++;
-            return true;
-        }
-
-        private boolean readSecondPrice(int place) {
-            lookOn();
-            int at = from;
-            if (!passWhole(1, 99)) {
-                return false;
-            }
-            if (value == road.first[place]) {
-                return failAt(AGAIN, at);
-            }
-            road.second[place] = value;
             return true;
         }
 
@@ -1070,6 +1062,7 @@ public final class LastsToNext {
                     return failWith(UNFIT);
                 }
                 road.way[i] = place;
+                road.upTo[i] = i > 0 ? road.upTo[i - 1] + road.pintsOf(road.way[i - 1], place) : 0;
                 count++;
                 lookOn();
                 more = isSign(',');
@@ -1116,39 +1109,31 @@ public final class LastsToNext {
             while (from < end && text[from] == ' ') {
                 from++;
             }
-            to = from;
             if (from >= end) {
+                to = from;
                 kind = END;
-            } else if (isLetter(from)) {
-                lookAtLetters();
-            } else if (isDigit(from)) {
-                lookAtDigits();
+                return;
+            }
+            int letters = runLength('a', 'z');
+            int digits = runLength('0', '9');
+            boolean isSign = text[from] == ';' || text[from] == ',';
+            to = from + Math.max(1, letters + digits);
+            if (letters > 0) {
+                kind = letters <= LETTERS ? WORD : BROKEN;
+            } else if (digits > 0) {
+                kind = digits <= DIGITS ? WHOLE : BROKEN;
             } else {
-                kind = text[from] == ';' || text[from] == ',' ? SIGN : BROKEN;
-                to++;
+                kind = isSign ? SIGN : BROKEN;
             }
         }
 
-        private void lookAtLetters() {
-            while (to < end && isLetter(to)) {
-                to++;
+        /** How many bytes within two bounds stand together from here on. */
+        private int runLength(char least, char most) {
+            int at = from;
+            while (at < end && text[at] >= least && text[at] <= most) {
+                at++;
             }
-            kind = to - from <= LETTERS ? WORD : BROKEN;
-        }
-
-        private void lookAtDigits() {
-            while (to < end && isDigit(to)) {
-                to++;
-            }
-            kind = to - from <= DIGITS ? WHOLE : BROKEN;
-        }
-
-        private boolean isLetter(int at) {
-            return text[at] >= 'a' && text[at] <= 'z';
-        }
-
-        private boolean isDigit(int at) {
-            return text[at] >= '0' && text[at] <= '9';
+            return at - from;
         }
 
         private boolean isSign(char sign) {
@@ -1481,7 +1466,7 @@ public final class LastsToNext {
 
         /** What lacks to get to a later station, or, if a tank isn't enough for it, to fill up. */
         private static int pintsTo(Road road, int i, int j, int level) {
-            int legs = road.legsPints(i, j);
+            int legs = road.upTo[j] - road.upTo[i];
             return legs <= road.tank ? Math.max(0, legs - level) : road.tank - level;
         }
 

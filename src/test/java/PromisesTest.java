@@ -489,6 +489,10 @@ public final class PromisesTest {
         T.accepted("40 in order", u.fits(), 1, u);
         T.accepted("41 in order", u.fit(0, 1), 2, u);
         T.accepted("42 in order", u.went(true), 15, u);
+        // As much as any tank takes at once.
+        LastsToNext s = Told.of("car tank 40 has 0 stop 0,0 stuck 0;place a;place b;road a b takes 40 minutes 0;pump a price 1 shut 0;way a,b;receipt a 40");
+        T.accepted("40 a whole tank", s.fits(), 1, s);
+        T.accepted("43 a whole tank", s.needle(true), 0, s);
         // Each call searches by itself.
         T.accepted("42 alone", Told.of(net).went(false), 15, u);
         T.accepted("42 alone", Told.of(net).went(true), 9, u);
