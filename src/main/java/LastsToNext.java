@@ -1636,7 +1636,7 @@ public final class LastsToNext {
                 changed = false;
                 for (int place = 0; place < road.places; place++) {
                     stopAt(road, place, minutes);
-                    changed |= goOn(road, place, minutes);
+                    changed = goOn(road, place, minutes) || changed;
                 }
             }
             int best = CANNOT;
@@ -1669,7 +1669,7 @@ public final class LastsToNext {
             boolean changed = false;
             for (int next = 0; next < road.places; next++) {
                 if (road.isRoad(place, next)) {
-                    changed |= goAlong(road, place, next, minutes ? road.minutesOf(place, next) : 0);
+                    changed = goAlong(road, place, next, minutes ? road.minutesOf(place, next) : 0) || changed;
                 }
             }
             return changed;
@@ -1696,7 +1696,7 @@ public final class LastsToNext {
             for (int round = 0; changed && round < ROUNDS; round++) {
                 changed = false;
                 for (int place = 0; place < road.places; place++) {
-                    changed |= fillNext(road, place);
+                    changed = fillNext(road, place) || changed;
                 }
             }
             return level[goal];

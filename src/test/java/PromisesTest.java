@@ -195,6 +195,7 @@ public final class PromisesTest {
         T.refused("15", x.how(3), x, 1);
         T.refused("15", x.how(-1), x, 1);
         T.accepted("16", x.fewest(), 2, x);
+        T.accepted("20 alone", Told.of(Told.ROAD).within(1), -2, x);
         T.accepted("20", x.within(2), 56, x);
         T.accepted("20", x.within(1), -2, x);
         T.accepted("20", x.within(0), -2, x);
