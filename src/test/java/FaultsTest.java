@@ -7,12 +7,12 @@ public final class FaultsTest {
     private static void faulty(String text, int fault, int place) {
         LastsToNext x = new LastsToNext();
         int answer = Told.tell(x, text);
-        T.due("road " + text, answer, -1);
-        T.due("trouble " + text, x.trouble(), 4);
-        T.due("fault " + text, x.fault(), fault);
-        T.due("where " + text, x.where(), place);
-        T.due("tape " + text, x.size(13), 0);
-        T.due("stations " + text, x.size(8), 0);
+        T.due("3 " + text, answer, -1);
+        T.due("57 " + text, x.trouble(), 4);
+        T.due("4 " + text, x.fault(), fault);
+        T.due("5 " + text, x.where(), place);
+        T.due("56 tape, " + text, x.size(13), 0);
+        T.due("56 stations, " + text, x.size(8), 0);
     }
 
     private static void faultyAt(String text, int fault, String at) {
@@ -21,10 +21,10 @@ public final class FaultsTest {
 
     private static void fine(String text, int stations) {
         LastsToNext x = new LastsToNext();
-        T.due("road " + text, Told.tell(x, text), stations);
-        T.due("trouble " + text, x.trouble(), 0);
-        T.due("fault " + text, x.fault(), 0);
-        T.due("where " + text, x.where(), -1);
+        T.due("3 " + text, Told.tell(x, text), stations);
+        T.due("57 " + text, x.trouble(), 0);
+        T.due("4 " + text, x.fault(), 0);
+        T.due("5 " + text, x.where(), -1);
     }
 
     private static String many(String line, int n) {
@@ -206,41 +206,41 @@ public final class FaultsTest {
 
     private static void tape() {
         LastsToNext x = new LastsToNext();
-        T.due("fault, new", x.fault(), 0);
-        T.due("where, new", x.where(), -1);
+        T.due("4 fault, new", x.fault(), 0);
+        T.due("5 where, new", x.where(), -1);
         for (int i = 1; i <= 40; i++) {
-            T.due("feed " + i, x.feed(0x20202020, 0x20202020, 0x20202020, 0x20202020, 0x20202020), 20 * i);
+            T.due("2 feed " + i, x.feed(0x20202020, 0x20202020, 0x20202020, 0x20202020, 0x20202020), 20 * i);
         }
-        T.due("feed 41", x.feed(0, 0, 0, 0, 0), -1);
-        T.due("tape", x.size(13), 800);
-        T.refused("road(801)", x.road(801), x, 2);
-        T.refused("road(-1)", x.road(-1), x, 2);
-        T.due("tape stays", x.size(13), 800);
-        T.due("fault stays", x.fault(), 0);
-        T.refused("road(800)", x.road(800), x, 4);
-        T.due("fault", x.fault(), 1);
-        T.due("where", x.where(), 800);
-        T.due("tape", x.size(13), 0);
+        T.due("2 feed 41", x.feed(0, 0, 0, 0, 0), -1);
+        T.due("56 tape", x.size(13), 800);
+        T.refused("3 road(801)", x.road(801), x, 2);
+        T.refused("3 road(-1)", x.road(-1), x, 2);
+        T.due("56 tape stays", x.size(13), 800);
+        T.due("4 fault stays", x.fault(), 0);
+        T.refused("3 road(800)", x.road(800), x, 4);
+        T.due("4 fault", x.fault(), 1);
+        T.due("5 where", x.where(), 800);
+        T.due("56 tape", x.size(13), 0);
         // feed has no number, so it is no call that may be refused.
         x.feed(0x41424344, 0, 0, 0, 0);
-        T.due("where behind feed", x.where(), 800);
-        T.due("trouble behind feed", x.trouble(), 4);
-        T.refused("road(21)", x.road(21), x, 2);
-        T.due("where behind 2", x.where(), -1);
-        T.due("fault behind 2", x.fault(), 1);
-        T.refused("road(20)", x.road(20), x, 4);
-        T.due("where", x.where(), 0);
+        T.due("5 where behind feed", x.where(), 800);
+        T.due("57 trouble behind feed", x.trouble(), 4);
+        T.refused("3 road(21)", x.road(21), x, 2);
+        T.due("5 where behind 2", x.where(), -1);
+        T.due("4 fault behind 2", x.fault(), 1);
+        T.refused("3 road(20)", x.road(20), x, 4);
+        T.due("5 where", x.where(), 0);
         Told.feed(x, "car tank 5 has 5 stop 0,0 stuck 7;place a;place b;road a b takes 3 minutes 0;way a,b");
-        T.accepted("road", x.road(84), 2, x);
-        T.due("fault", x.fault(), 0);
-        T.due("where", x.where(), -1);
+        T.accepted("3 road", x.road(84), 2, x);
+        T.due("4 fault", x.fault(), 0);
+        T.due("5 where", x.where(), -1);
         // The ROAD stays where another one is refused.
-        T.due("other", Told.tell(x, "car tank 9"), -1);
-        T.due("fault", x.fault(), 1);
-        T.due("where", x.where(), 10);
-        T.due("tank", x.size(0), 5);
-        T.due("stations", x.size(8), 2);
-        T.accepted("station", x.station(1), 1, x);
-        T.due("where", x.where(), -1);
+        T.due("3 other", Told.tell(x, "car tank 9"), -1);
+        T.due("4 fault", x.fault(), 1);
+        T.due("5 where", x.where(), 10);
+        T.due("56 tank", x.size(0), 5);
+        T.due("56 stations", x.size(8), 2);
+        T.accepted("8 station", x.station(1), 1, x);
+        T.due("5 where", x.where(), -1);
     }
 }

@@ -43,6 +43,33 @@ final class Told {
         return x;
     }
 
+    /**
+     * A way of PLACES a, b, .. in a row: of what follows the car a text is the pump there ("" none), a number the pints of
+     * the next LEG; the LEGS have 10, 11, .. minutes.
+     */
+    static String row(String car, Object... parts) {
+        StringBuilder places = new StringBuilder();
+        StringBuilder roads = new StringBuilder();
+        StringBuilder pumps = new StringBuilder();
+        StringBuilder way = new StringBuilder();
+        int count = 0;
+        for (Object part : parts) {
+            char name = (char) ('a' + count);
+            if (part instanceof Integer) {
+                roads.append(";road ").append((char) (name - 1)).append(' ').append(name).append(" takes ").append(part)
+                        .append(" minutes ").append(9 + count);
+                continue;
+            }
+            places.append(";place ").append(name);
+            way.append(count == 0 ? ";way " : ",").append(name);
+            if (!part.equals("")) {
+                pumps.append(";pump ").append(name).append(" price ").append(part);
+            }
+            count++;
+        }
+        return "car " + car + places + roads + pumps + way;
+    }
+
     void due(String call, long got, long want) {
         compared++;
         if (got != want) {
