@@ -32,11 +32,13 @@ final class Model {
     }
 
     private void fill(Random r, int mostPlaces, int mostTank, int mostStations) {
+        // Low numbers make many like answers, high ones long fractions; both are wanted.
+        boolean high = r.nextInt(4) == 0;
         tank = 1 + r.nextInt(mostTank);
         has = r.nextInt(tank + 1);
-        stopPence = r.nextInt(3) == 0 ? 0 : r.nextInt(12);
-        stopMinutes = r.nextInt(12);
-        stuck = r.nextInt(60);
+        stopPence = r.nextInt(3) == 0 ? 0 : r.nextInt(high ? 100 : 12);
+        stopMinutes = r.nextInt(high ? 61 : 12);
+        stuck = r.nextInt(high ? 1000 : 60);
         places = 2 + r.nextInt(mostPlaces - 1);
         int wanted = Math.min(14, places - 1 + r.nextInt(places + 2));
         int longest = Math.max(1, tank * (r.nextInt(5) == 0 ? 3 : 2) / 3);
@@ -45,11 +47,11 @@ final class Model {
             int b = r.nextInt(places);
             if (a != b && pints[a][b] == 0) {
                 pints[a][b] = pints[b][a] = Math.min(40, 1 + r.nextInt(longest));
-                minutes[a][b] = minutes[b][a] = r.nextInt(20);
+                minutes[a][b] = minutes[b][a] = r.nextInt(high ? 100 : 20);
                 roads++;
             }
         }
-        int prices = r.nextInt(4) == 0 ? 3 : 12;
+        int prices = high ? 99 : r.nextInt(4) == 0 ? 3 : 12;
         for (int p = 0; p < places; p++) {
             if (r.nextInt(5) > 0 && pumps < 8) {
                 first[p] = 1 + r.nextInt(prices);
@@ -79,7 +81,7 @@ final class Model {
             int p = r.nextInt(places);
             if (first[p] > 0) {
                 int price = second[p] > 0 && r.nextBoolean() ? second[p] : first[p];
-                receipts.add(new int[] {p, r.nextInt(9) == 0 ? 1 + r.nextInt(40) : price * (1 + r.nextInt(tank))});
+                receipts.add(new int[] {p, r.nextInt(9) == 0 ? 1 + r.nextInt(40) : price * (1 + r.nextInt(Math.min(tank, 999 / price)))});
             }
         }
     }
